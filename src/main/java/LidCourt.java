@@ -8,6 +8,7 @@ public final class LidCourt {
     private static final int MOST_FLOORS = 4;
     private static final int MOST_CASES = 5;
     private static final int MOST_DENTS = 20;
+    private static final int HIGHEST_RING = 80;
     private static final int HANDS_IN_ALL = 12;
     private static final int LAST_DAY = 400;
     private static final int MOST_DAYS = 60;
@@ -271,7 +272,7 @@ public final class LidCourt {
         if (!isCase(c) || droppers == 0) {
             return NONE;
         }
-        return standing.apart(law, droppers, law.caseFloor[c]);
+        return standing.apart(law, droppers, law.caseFloor[c], 0);
     }
 
     public int longest(int c) {
@@ -1094,13 +1095,14 @@ public final class LidCourt {
             return Math.max(0, law.ringWithoutDents(j, f) - law.dent * dents[j]);
         }
 
-        /** How far the RINGS of a set that is not empty are apart. */
-        int apart(Law law, int set, int floor) {
-            int low = Integer.MAX_VALUE;
+        /** How far the RINGS of a set that is not empty are apart, as if those of another were beaten out. */
+        int apart(Law law, int set, int floor, int beaten) {
+            int low = HIGHEST_RING;
             int high = 0;
             for (int j = 0; j < law.jurors; j++) {
                 if ((set >> j & 1) != 0) {
-                    int ring = ringOf(law, j, floor);
+                    boolean out = (beaten >> j & 1) != 0;
+                    int ring = out ? law.ringWithoutDents(j, floor) : ringOf(law, j, floor);
                     low = Math.min(low, ring);
                     high = Math.max(high, ring);
                 }
@@ -1178,7 +1180,7 @@ public final class LidCourt {
 
         private void dropLids(Law law, int c) {
             int these = droppers();
-            how[c] = apart(law, these, law.caseFloor[c]) <= law.one ? FREE : GUILTY;
+            how[c] = apart(law, these, law.caseFloor[c], 0) <= law.one ? FREE : GUILTY;
             triedOn[c] = day;
             dropped[c] = these;
             heldOn[c] = sits & holds;
@@ -1333,9 +1335,11 @@ public final class LidCourt {
         void copyFrom(Saying other) {
             present = other.present;
             steps = other.steps;
-            System.arraycopy(other.word, 0, word, 0, MOST_STEPS);
-            System.arraycopy(other.first, 0, first, 0, MOST_STEPS);
-            System.arraycopy(other.second, 0, second, 0, MOST_STEPS);
+            for (int i = 0; i < MOST_STEPS; i++) {
+                word[i] = other.word[i];
+                first[i] = other.first[i];
+                second[i] = other.second[i];
+            }
         }
 
         void add(Word doing, int a, int b) {
@@ -1708,25 +1712,11 @@ public final class LidCourt {
             int best = NONE;
             for (int set = 0; set <= dented; set++) {
                 boolean fewer = best == NONE || Integer.bitCount(set) < Integer.bitCount(best);
-                if ((set & ~dented) == 0 && fewer && apartBeaten(law, standing, droppers, floor, set) <= law.one) {
+                if ((set & ~dented) == 0 && fewer && standing.apart(law, droppers, floor, set) <= law.one) {
                     best = set;
                 }
             }
             return best;
-        }
-
-        private static int apartBeaten(Law law, Standing standing, int droppers, int floor, int beaten) {
-            int lowest = Integer.MAX_VALUE;
-            int highest = 0;
-            for (int j = 0; j < law.jurors; j++) {
-                if ((droppers >> j & 1) != 0) {
-                    int ring = (beaten >> j & 1) != 0
-                        ? law.ringWithoutDents(j, floor) : standing.ringOf(law, j, floor);
-                    lowest = Math.min(lowest, ring);
-                    highest = Math.max(highest, ring);
-                }
-            }
-            return highest - lowest;
         }
     }
 

@@ -13,6 +13,7 @@ public final class ActsTest {
         appeal();
         days();
         undo();
+        eachChangesItsOwnAlone();
         noSuch();
         CHECK.close();
     }
@@ -222,6 +223,38 @@ public final class ActsTest {
         Check.sentence(x, "sitting");
         CHECK.due("undo() sit", x.undo(), 0);
         CHECK.due("the SENTENCE stays", x.said(-1), 2);
+    }
+
+    private static void eachChangesItsOwnAlone() {
+        String before = "now 1 3 0 0 3 4 2 0; count 2 1 2 0 1";
+        String juror0 = "; juror 10 8 3 1 0 2 2 12/5";
+        String juror1 = "; juror 12 9 4 1 0 2 2 14/6";
+        String cases = "; case 0 2 0 3 0 p is guilty by 2; case 0 2 0 3 0 q is guilty by 2; said -1 -1";
+        LidCourt x = Check.told("juror a 10 8 3 seated;juror b 12 9 4 seated;floor f 4 3;case p f;case q f;one 0;");
+        x.tryCase(0);
+        x.days(1);
+        x.tryCase(1);
+        x.days(1);
+        cases = cases.replace("case 0 2 0 3 0 q", "case 0 2 1 3 0 q");
+        before = before.replace("now 1", "now 2");
+        CHECK.dueText("both CASES tried", Check.allThatIsSo(x), before + juror0 + juror1 + cases);
+        x.hold(0);
+        CHECK.dueText("hold(0)", Check.allThatIsSo(x),
+            before.replace("now 2 3 0", "now 2 3 1") + juror0.replace("1 0 2 2", "1 1 2 2") + juror1 + cases);
+        x.drop(0);
+        CHECK.dueText("drop(0)", Check.allThatIsSo(x), before + juror0 + juror1 + cases);
+        x.rise(1);
+        CHECK.dueText("rise(1)", Check.allThatIsSo(x),
+            before.replace("now 2 3", "now 2 1") + juror0 + juror1.replace("1 0 2 2", "0 0 2 2") + cases);
+        x.sit(1);
+        CHECK.dueText("sit(1)", Check.allThatIsSo(x), before + juror0 + juror1 + cases);
+        x.beat(1);
+        CHECK.dueText("beat(1)", Check.allThatIsSo(x),
+            before.replace("3 4 2", "3 2 2") + juror0 + juror1.replace("0 2 2 14", "0 0 2 16") + cases);
+        x.undo();
+        CHECK.dueText("undo()", Check.allThatIsSo(x), before + juror0 + juror1 + cases);
+        x.days(3);
+        CHECK.dueText("days(3)", Check.allThatIsSo(x), before.replace("now 2", "now 5") + juror0 + juror1 + cases);
     }
 
     private static void noSuch() {

@@ -117,7 +117,32 @@ final class Check {
         return x;
     }
 
-    static String times(String text, int many) {
-        return text.repeat(many);
+    /** All that is so, as a text, so that two states can be compared whole. */
+    static String allThatIsSo(LidCourt x) {
+        StringBuilder all = new StringBuilder("now");
+        for (int what = 0; what < 8; what++) {
+            all.append(' ').append(x.now(what));
+        }
+        all.append("; count");
+        for (int what = 0; what < 5; what++) {
+            all.append(' ').append(x.count(what));
+        }
+        for (int j = 0; j < x.count(0); j++) {
+            all.append("; juror");
+            for (int what = 0; what < 7; what++) {
+                all.append(' ').append(x.juror(j, what));
+            }
+            for (int f = 0; f < x.count(1); f++) {
+                all.append(' ').append(x.ring(j, f)).append('/').append(x.lasts(j, f));
+            }
+        }
+        for (int c = 0; c < x.count(2); c++) {
+            all.append("; case");
+            for (int what = 0; what < 5; what++) {
+                all.append(' ').append(x.trial(c, what));
+            }
+            all.append(' ').append(roll(x, c));
+        }
+        return all.append("; said ").append(x.said(-1)).append(' ').append(x.said(0)).toString();
     }
 }

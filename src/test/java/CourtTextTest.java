@@ -189,9 +189,9 @@ public final class CourtTextTest {
     private static void newCourt() {
         LidCourt x = Check.told("juror a 9 1 0 seated;juror b 9 1 0 seated;floor f 1 1;case c f;one 7;dent 2;");
         Check.sentence(x, "sitting");
+        x.days(3);
         x.hold(1);
         x.tryCase(0);
-        x.days(3);
         CHECK.due("court() of a FAULT", Check.court(x, "x"), -1);
         CHECK.due("court()", Check.court(x, "floor f 1 1;case c f;juror a 9 1 0;"), 3);
         CHECK.due("fault() is gone", x.fault(), 0);
@@ -203,6 +203,7 @@ public final class CourtTextTest {
         CHECK.due("dropped", x.juror(0, 6), 0);
         CHECK.due("tried on", x.trial(0, 2), -1);
         CHECK.due("who dropped", x.trial(0, 3), 0);
+        CHECK.due("who held on", x.trial(0, 4), 0);
         CHECK.due("no SENTENCE", x.said(-1), -1);
         CHECK.due("nothing to undo", x.undo(), -1);
     }

@@ -101,7 +101,7 @@ public final class FaceTest {
         String[] ruledOut = {
             "->", "::", "\\btry\\s*\\{", "\\bcatch\\b", "\\bfinally\\b", "\\bsynchronized\\b", "\\bassert\\b", "\\binstanceof\\b",
             "\\brecord\\b", "\\bvar\\b", "\\bSystem\\.(?!arraycopy)", "\\bdouble\\b", "\\bfloat\\b", "\\bhashCode\\b", "Exact\\b",
-            "\\bordinal\\b", "\\bimport (?!java\\.util\\.NoSuchElementException;)", "\\bpackage\\b", "\"\\s*\\+", "\\+\\s*\"",
+            "\\bordinal\\b", "MAX_VALUE", "MIN_VALUE", "\\bimport (?!java\\.util\\.NoSuchElementException;)", "\\bpackage\\b", "\"\\s*\\+", "\\+\\s*\"",
             "\\bprotected\\b", "static\\s*\\{", "while\\s*\\(true\\)", "for\\s*\\(;;\\)", "\\bnew (?!NoSuchElementException\\(\\))\\w+Exception"
         };
         for (String pattern : ruledOut) {

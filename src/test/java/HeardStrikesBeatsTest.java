@@ -10,6 +10,7 @@ public final class HeardStrikesBeatsTest {
         strikesByTurns();
         beats();
         beatsNone();
+        eachTellsItsOwn();
         CHECK.close();
     }
 
@@ -79,6 +80,16 @@ public final class HeardStrikesBeatsTest {
         x.rise(3);
         CHECK.due("heard", Check.heard(x, 0, 10, 10), 1);
         CHECK.due("ask()", x.ask(), 1);
+        // b and c are in two of three, e, who sits ahead of them, in none
+        x.rise(4);
+        x.sit(2);
+        x.sit(3);
+        CHECK.due("heard", Check.heard(x, 0, 10, 10), 3);
+        CHECK.due("ask()", x.ask(), 2);
+        x.rise(2);
+        x.rise(3);
+        x.sit(4);
+        CHECK.due("heard", Check.heard(x, 0, 10, 10), 1);
         Check.court(x, "");
         CHECK.due("ask() as it was then", x.ask(), 1);
     }
@@ -207,5 +218,48 @@ public final class HeardStrikesBeatsTest {
         y.sit(3);
         CHECK.due("beats(0)", y.beats(0), 3);
         CHECK.due("beating()", y.beating(), 13);
+    }
+
+    /** What one call told last is not what another one did. */
+    private static void eachTellsItsOwn() {
+        for (int turn = 0; turn < 2; turn++) {
+            LidCourt x = Check.told("juror a 40 1 12;juror b 9 1 9 seated;juror c 30 1 12;juror d 10 1 0 seated;juror e 12 1 12 seated;"
+                + "juror g 40 1 0;floor f 0 0;case p f;one 1;");
+            for (int i = 0; i < 6; i++) {
+                tell(x, turn == 0 ? i : 5 - i);
+            }
+            CHECK.due("agreed()", x.agreed(), 2 | 8);
+            CHECK.due("jurors()", x.jurors(), 1 | 32);
+            CHECK.due("panelled()", x.panelled(), 8);
+            CHECK.due("surely()", x.surely(), 16);
+            CHECK.due("ask()", x.ask(), 1);
+            CHECK.due("struck()", x.struck(), 4);
+            CHECK.due("beating()", x.beating(), 0);
+        }
+    }
+
+    private static void tell(LidCourt x, int what) {
+        switch (what) {
+            case 0:
+                x.agree(0);
+                break;
+            case 1:
+                x.jury(0, 2);
+                break;
+            case 2:
+                x.panel(0, 1, 0);
+                break;
+            case 3:
+                Check.heard(x, 0, 12, 12);
+                break;
+            case 4:
+                x.strikes(0, 2);
+                break;
+            default:
+                x.hold(1);
+                x.hold(3);
+                x.beats(0);
+                break;
+        }
     }
 }

@@ -26,31 +26,6 @@ public final class ImageTest {
         CHECK.due("a restore() that is false leaves what can be undone", x.undo(), 0);
     }
 
-    private static String told(LidCourt x) {
-        StringBuilder all = new StringBuilder();
-        for (int what = 0; what < 8; what++) {
-            all.append(x.now(what)).append(' ');
-        }
-        for (int what = 0; what < 5; what++) {
-            all.append(x.count(what)).append(' ');
-        }
-        for (int j = 0; j < x.count(0); j++) {
-            for (int what = 0; what < 7; what++) {
-                all.append(x.juror(j, what)).append(' ');
-            }
-            for (int f = 0; f < x.count(1); f++) {
-                all.append(x.ring(j, f)).append(' ').append(x.lasts(j, f)).append(' ');
-            }
-        }
-        for (int c = 0; c < x.count(2); c++) {
-            for (int what = 0; what < 5; what++) {
-                all.append(x.trial(c, what)).append(' ');
-            }
-            all.append(Check.roll(x, c)).append(' ');
-        }
-        return all.append(x.said(-1)).append(' ').append(x.said(0)).toString();
-    }
-
     private static void allIsKept() {
         LidCourt x = Check.told(COURT);
         x.hold(1);
@@ -60,9 +35,9 @@ public final class ImageTest {
         x.hold(0);
         x.tryCase(1);
         Check.sentence(x, "rings g a or dents > 1");
-        String before = told(x);
+        String before = Check.allThatIsSo(x);
         CHECK.due("image(0)", x.image(0), true);
-        CHECK.dueText("an image changes nothing", told(x), before);
+        CHECK.dueText("an image changes nothing", Check.allThatIsSo(x), before);
         CHECK.due("what can be undone stays", x.undo(), 5);
         x.days(60);
         x.beat(1);
@@ -71,11 +46,11 @@ public final class ImageTest {
         Check.court(x, "juror z 1 1 1;one 9;");
         CHECK.due("another COURT", x.count(0), 1);
         CHECK.due("restore(0)", x.restore(0), true);
-        CHECK.dueText("all is as kept", told(x), before);
+        CHECK.dueText("all is as kept", Check.allThatIsSo(x), before);
         CHECK.due("nothing can be undone", x.undo(), -1);
         x.drawn(30, 4);
         CHECK.due("restore(0) again", x.restore(0), true);
-        CHECK.dueText("all is as kept again", told(x), before);
+        CHECK.dueText("all is as kept again", Check.allThatIsSo(x), before);
         CHECK.due("the names, too", Check.book(x, 0, "c rises;appeal q;day 1;try q;"), -1);
         CHECK.due("nothing can be undone", x.undo(), -1);
     }

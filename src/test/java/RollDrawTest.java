@@ -60,41 +60,52 @@ public final class RollDrawTest {
         return (x >>> 8) % n;
     }
 
-    private static void drawnByHand() {
-        LidCourt court = Check.told("juror a 10 1 6 seated;juror b 12 1 3 seated;juror c 30 1 9;floor f 0 0;case p f;case q f;case r f;one 2;");
-        int[] hands = {6, 3, 9};
-        int[] dents = new int[3];
-        boolean[] tried = new boolean[3];
-        int trials = 0;
-        int seed = -77;
-        x = seed;
-        for (int day = 0; day < 60; day++) {
-            boolean[] holds = new boolean[3];
-            for (int j = 0; j < 3; j++) {
-                holds[j] = draw(12) < hands[j];
-            }
-            int c = draw(3);
-            if (!tried[c] && (!holds[0] || !holds[1])) {
-                tried[c] = true;
-                trials++;
-                for (int j = 0; j < 2; j++) {
-                    dents[j] += holds[j] ? 0 : 1;
-                }
-            }
-            if (draw(6) == 0) {
-                dents[draw(3)] = 0;
+    private static final int[] HANDS = {6, 3, 9};
+    private static final int[] PITCH = {10, 12, 30};
+
+    /** Draws one DAY by hand; three JURORS, of whom the first two sit, and three CASES. */
+    private static void drawDay(int[] dents, int[] how) {
+        boolean[] holds = new boolean[3];
+        for (int j = 0; j < 3; j++) {
+            holds[j] = draw(12) < HANDS[j];
+        }
+        int c = draw(3);
+        if (how[c] == 0 && (!holds[0] || !holds[1])) {
+            int apart = Math.abs(PITCH[0] - dents[0] - PITCH[1] + dents[1]);
+            how[c] = holds[0] || holds[1] || apart <= 2 ? 1 : 2;
+            for (int j = 0; j < 2; j++) {
+                dents[j] += holds[j] ? 0 : 1;
             }
         }
-        CHECK.due("drawn(60, -77)", court.drawn(60, seed), 60);
-        CHECK.due("DAY", court.now(0), 60);
-        CHECK.due("trials", court.now(6), trials);
-        CHECK.due("a's dents", court.juror(0, 5), dents[0]);
-        CHECK.due("b's dents", court.juror(1, 5), dents[1]);
-        CHECK.due("c's dents", court.juror(2, 5), 0);
-        CHECK.due("nobody holds", court.now(2), 0);
-        CHECK.due("undo()", court.undo(), 0);
-        CHECK.due("DAY", court.now(0), 0);
-        CHECK.due("trials", court.now(6), 0);
+        if (draw(6) == 0) {
+            dents[draw(3)] = 0;
+        }
+    }
+
+    private static void drawnByHand() {
+        String text = "juror a 10 1 6 seated;juror b 12 1 3 seated;juror c 30 1 9;floor f 0 0;case p f;case q f;case r f;one 2;";
+        for (int seed = -40; seed < 40; seed++) {
+            LidCourt court = Check.told(text);
+            int[] dents = new int[3];
+            int[] how = new int[3];
+            x = seed * 1000003;
+            int many = 1 + (seed + 40) % 12;
+            CHECK.due("drawn(" + many + ", " + x + ")", court.drawn(many, x), many);
+            for (int day = 0; day < many; day++) {
+                drawDay(dents, how);
+            }
+            for (int i = 0; i < 3; i++) {
+                CHECK.due("dents of " + i, court.juror(i, 5), dents[i]);
+                CHECK.due("CASE " + i, court.trial(i, 1), how[i]);
+            }
+            CHECK.due("DAY", court.now(0), many);
+            CHECK.due("nobody holds", court.now(2), 0);
+            CHECK.due("undo()", court.undo(), 0);
+            CHECK.due("DAY", court.now(0), 0);
+            CHECK.due("trials", court.now(6), 0);
+        }
+        LidCourt court = Check.told(text);
+        CHECK.due("drawn(60, 1)", court.drawn(60, 1), 60);
     }
 
     private static void drawnWithoutCases() {
@@ -112,24 +123,42 @@ public final class RollDrawTest {
         always.hold(0);
         always.drawn(1, 9);
         CHECK.due("tried on DAY 0, though he held ahead of it", always.trial(0, 2), 0);
+        // One JUROR alone: a draw of 6 that is 0 beats out the dent of the same DAY.
+        for (int seed = 0; seed < 60; seed++) {
+            LidCourt alone = Check.told("juror a 10 1 0 seated;floor f 0 0;case p f;");
+            x = seed;
+            draw(12);
+            draw(1);
+            int dents = draw(6) == 0 ? 0 : 1;
+            alone.drawn(1, seed);
+            CHECK.due("dents by seed " + seed, alone.juror(0, 5), dents);
+        }
         LidCourt today = Check.told("juror a 10 1 0 seated;floor f 0 0;case p f;case q f;");
         today.tryCase(0);
         today.drawn(1, 9);
         CHECK.due("one trial a DAY", today.now(6), 1);
     }
 
+    private static final String RARE = "juror a 10 1 11 seated;floor f 0 0;case p f;";
+    private static final String TO_DAY_390 = "day 60;".repeat(6) + "day 30;";
+
     private static void drawnToTheEnd() {
-        LidCourt court = Check.told("juror a 10 1 4 seated;floor f 0 0;case p f;");
-        for (int i = 0; i < 6; i++) {
-            court.days(60);
-        }
-        court.days(30);
+        LidCourt court = Check.told(RARE);
+        Check.book(court, 1, TO_DAY_390);
         CHECK.due("drawn(60, 1) with ten left", court.drawn(60, 1), 10);
         CHECK.due("DAY", court.now(0), 400);
-        int kept = court.undo();
-        court.drawn(60, 1);
+        court.hold(0);
         CHECK.due("drawn(1, 1) with none left", court.drawn(1, 1), 0);
-        CHECK.due("nothing more to undo", court.undo(), kept);
+        CHECK.due("he holds still", court.now(2), 1);
+        CHECK.due("nothing more to undo", court.undo(), 2);
+        for (int seed = 0; seed < 40; seed++) {
+            LidCourt one = Check.told(RARE);
+            Check.book(one, 1, TO_DAY_390);
+            int free = one.odds(0, 1, seed);
+            one.drawn(10, seed);
+            CHECK.due("odds(0, 1, " + seed + ") with ten DAYS left", free, one.trial(0, 1));
+            CHECK.due("odds(0, 1, " + seed + ") with none left", one.odds(0, 1, 99 - seed), one.trial(0, 1));
+        }
     }
 
     private static void odds() {
@@ -146,6 +175,12 @@ public final class RollDrawTest {
                 free += one.trial(0, 1) == 1 ? 1 : 0;
                 CHECK.due("odds(0, " + (i + 1) + ", " + seed + ")", court.odds(0, i + 1, seed), free);
             }
+        }
+        LidCourt rare = Check.told(RARE);
+        for (int seed = 0; seed < 40; seed++) {
+            LidCourt one = Check.told(RARE);
+            one.drawn(20, seed);
+            CHECK.due("odds(0, 1, " + seed + ")", rare.odds(0, 1, seed), one.trial(0, 1));
         }
         CHECK.due("all stays: DAY", court.now(0), 3);
         CHECK.due("all stays: trials", court.now(6), 1);

@@ -207,6 +207,7 @@ public final class SentenceTest {
         CHECK.due("fault()", x.fault(), 1);
         CHECK.due("another SENTENCE", Check.sentence(x, "sitting"), 1);
         CHECK.due("fault() is gone", x.fault(), 0);
+        CHECK.due("said(-1)", x.said(-1), 2);
         CHECK.due("said(0)", x.said(0), 0);
         Check.court(x, "x");
         CHECK.due("the SENTENCE stays by a FAULT of a COURT", x.said(0), 0);
