@@ -465,13 +465,15 @@ public final class LidCourt {
     }
 
     public int sentence() {
-        int ones = sentenceReader.readSentence(law);
+        sentenceReader.begin();
+        sentenceReader.readCond(law, 1);
+        sentenceReader.finish();
         tape.length = 0;
         if (tape.isBroken()) {
             return -1 - tape.faultAt;
         }
         saying.copyFrom(sentenceReader.draft);
-        return ones;
+        return sentenceReader.ones;
     }
 
     public int said(int k) {
@@ -1316,7 +1318,7 @@ public final class LidCourt {
         }
     }
 
-    /** A SENTENCE as steps over sets of JURORS: each plain ONE lays its set down, 'not', 'and', 'or' work on the last. */
+    /** A SENTENCE as steps over sets of JURORS: a plain ONE lays its set down, 'not', 'and', 'or' work on the last. */
     private static final class Saying {
         private static final int MOST_STEPS = 2 * SENTENCE_ONES;
 
@@ -1419,26 +1421,27 @@ public final class LidCourt {
     /** Reads a SENTENCE into a draft, so that the SENTENCE that is stays by a FAULT. */
     private static final class SentenceReader {
         final Saying draft = new Saying();
+        int ones;
         private final Reader reader;
-        private int ones;
 
         SentenceReader(Reader reader) {
             this.reader = reader;
         }
 
-        int readSentence(Law law) {
+        void begin() {
             draft.empty();
             ones = 0;
             reader.begin(SENTENCE_BYTES);
-            readCond(law, 1);
+        }
+
+        void finish() {
             if (reader.goesOn()) {
                 reader.fail(BAD_TOKEN);
             }
             draft.present = true;
-            return ones;
         }
 
-        private void readCond(Law law, int depth) {
+        void readCond(Law law, int depth) {
             readAll(law, depth);
             for (int i = 0; i < SENTENCE_ONES && reader.takeIf(Word.OR); i++) {
                 readAll(law, depth);
