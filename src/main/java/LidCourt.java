@@ -626,6 +626,7 @@ public final class LidCourt {
         int length;
         int faultKind;
         int faultAt;
+        /** Of the WORD that has come; 0 if no WORD has, so that nothing else is found as a NAME. */
         long letters;
         private int mostBytes;
         private int behind;
@@ -695,6 +696,9 @@ public final class LidCourt {
             } else {
                 kind = NO_TOKEN;
             }
+            if (kind != WORD) {
+                letters = 0;
+            }
         }
 
         private static boolean isSign(int sign) {
@@ -714,6 +718,7 @@ public final class LidCourt {
                 faultKind = fault;
                 faultAt = at;
                 kind = NO_TOKEN;
+                letters = 0;
             }
         }
 
@@ -987,17 +992,22 @@ public final class LidCourt {
         private void readTuned() {
             reader.advance();
             int j = reader.takeFound(draft.jurorNamed(reader.letters));
-            int f = draft.floorNamed(reader.letters);
-            if (j != NONE && f != NONE && draft.tuned[j * MOST_FLOORS + f] != NONE) {
-                reader.fail(BAD_NAME);
-            }
-            reader.takeFound(f);
+            int f = reader.takeFound(floorNotTunedFor(j));
             int tuned = reader.takeNumber(0, 60);
             reader.takeSign(';');
             if (reader.isBroken() || j == NONE || f == NONE) {
                 return;
             }
             draft.tuned[j * MOST_FLOORS + f] = tuned;
+        }
+
+        /** The FLOOR that is named, NONE if the two were told together: takeFound alone judges what has come. */
+        private int floorNotTunedFor(int j) {
+            int f = draft.floorNamed(reader.letters);
+            if (j == NONE || f == NONE) {
+                return NONE;
+            }
+            return draft.tuned[j * MOST_FLOORS + f] == NONE ? f : NONE;
         }
 
         private void readOne() {

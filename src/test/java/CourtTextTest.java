@@ -127,6 +127,16 @@ public final class CourtTextTest {
         bad("juror a 1 1 0;floor f 0 0;tuned a g 1;", 3, 34);
         bad("juror a 1 1 0;floor f 0 0;tuned a f 1;tuned a f 2;", 3, 46);
         bad("juror a 1 1 0;floor f 0 0;tuned a f 1;tuned a f", 3, 46);
+        // Small letters and digits go on together: these are no TOKENS, not the NAMES with which they begin or end.
+        bad("juror a 1 1 0;floor f 0 0;tuned a f 1;tuned a f1 2;", 1, 46);
+        bad("juror a 1 1 0;floor f 0 0;tuned a f 1;tuned a 1f 2;", 1, 46);
+        bad("juror a 1 1 0;floor f 0 0;tuned a f 1;tuned a1 f 2;", 1, 44);
+        bad("juror a 1 1 0;floor f 0 0;tuned a f 1;tuned1 a f 2;", 1, 38);
+        bad("juror a 1 1 0;juror a1 1 1 0;", 1, 20);
+        bad("juror a 1 1 0;floor 1a 1 1;", 1, 20);
+        bad("floor f 1 1;case c f0;", 1, 19);
+        bad("one 3;one3 3;", 1, 6);
+        bad("one 3;1one 3;", 1, 6);
         bad("one 3;one 3;", 3, 6);
         bad("one 3;one;", 3, 6);
         bad("dent 1;one 3;dent 1;", 3, 13);
