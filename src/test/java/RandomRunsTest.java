@@ -65,7 +65,7 @@ public final class RandomRunsTest {
     private void text(int kind, int most) {
         texts.know(plain.world);
         String text = kind == 0 ? texts.court() : kind == 1 ? texts.book() : texts.sentence();
-        for (int i = random.nextInt(4) == 0 ? 1 + random.nextInt(2) : 0; i > 0; i--) {
+        for (int i = random.nextInt(4) == 0 ? 1 + random.nextInt(3) : 0; i > 0; i--) {
             text = texts.broken(text, most);
         }
         lay(text);

@@ -150,7 +150,16 @@ final class RandomTexts {
 
     /** Breaks a text a little. */
     String broken(String text, int most) {
-        switch (random.nextInt(7)) {
+        switch (random.nextInt(9)) {
+            case 8: {
+                // A LINE told again, so that another break may meet its FAULT.
+                String[] lines = text.split("(?<=;)");
+                return text + lines[random.nextInt(lines.length)];
+            }
+            case 7: {
+                int at = random.nextInt(text.length() + 1);
+                return text.substring(0, at) + "0123456789abcfjz".charAt(random.nextInt(16)) + text.substring(at);
+            }
             case 6: {
                 String[] words = text.split("(?<=[ ;()\n])");
                 int at = random.nextInt(words.length);
