@@ -8,6 +8,7 @@ final class Check {
     }
 
     private final String test;
+    private String about = "";
     private int wrong;
     private int calls;
 
@@ -15,11 +16,20 @@ final class Check {
         this.test = test;
     }
 
+    /** Whose words the answers behind this are looked at for; printed with each that is not as due. */
+    void about(String words) {
+        about = words.isEmpty() ? "" : words + ": ";
+    }
+
+    int calls() {
+        return calls;
+    }
+
     void due(String call, long got, long want) {
         calls++;
         if (got != want) {
             wrong++;
-            System.out.println(test + ": " + call + " answered " + got + ", due is " + want);
+            System.out.println(test + ": " + about + call + " answered " + got + ", due is " + want);
         }
     }
 
@@ -31,7 +41,7 @@ final class Check {
         calls++;
         if (!got.equals(want)) {
             wrong++;
-            System.out.println(test + ": " + call + " answered '" + got + "', due is '" + want + "'");
+            System.out.println(test + ": " + about + call + " answered '" + got + "', due is '" + want + "'");
         }
     }
 
@@ -40,7 +50,7 @@ final class Check {
         try {
             long got = made.answer();
             wrong++;
-            System.out.println(test + ": " + call + " answered " + got + ", due is NoSuchElementException");
+            System.out.println(test + ": " + about + call + " answered " + got + ", due is NoSuchElementException");
         } catch (NoSuchElementException e) {
             return;
         }
