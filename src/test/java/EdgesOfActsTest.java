@@ -77,6 +77,19 @@ public final class EdgesOfActsTest {
             CHECK.due("court()", x.court(), 1);
             CHECK.due("dent is not told", x.count(4), 1);
             CHECK.due("end(1) behind court()", x.end(1), false);
+            // What was behind the end is no part of the last TOKEN.
+            Check.lay(x, "dented1and sitting");
+            x.end(6);
+            CHECK.due("sentence() of 'dented'", x.sentence(), 1);
+            Check.lay(x, "one 7;dent 23;");
+            x.end(12);
+            CHECK.due("court() of 'one 7;dent 2'", x.court(), -13);
+            CHECK.due("the end, not a NUMBER of 23", x.fault(), 1);
+            Check.lay(x, "one 17;dent 2;");
+            x.end(5);
+            Check.lay(x, ";");
+            CHECK.due("court() of 'one 1;'", x.court(), 1);
+            CHECK.due("one", x.count(3), 1);
         });
     }
 
@@ -102,6 +115,15 @@ public final class EdgesOfActsTest {
             LidCourt y = Check.told("juror a 5 1 0 seated;floor f 1 0;case p f;dent 0;");
             y.tryCase(0);
             CHECK.due("a 'dent' of 0", y.ring(0, 0), 6);
+            // Twenty dents of 9 each are more than any RING.
+            LidCourt z = Check.told("juror a 60 1 0 seated;juror b 1 1 12 seated;floor f 20 0;case p f;dent 9;");
+            for (int i = 1; i <= 20; i++) {
+                z.hold(1);
+                z.tryCase(0);
+                z.appeal(0);
+                z.days(1);
+                CHECK.due("dents " + i, z.ring(0, 0), Math.max(0, 80 - 9 * i));
+            }
         });
         EDGES.terms("it lasts LENGTH less DULL (1 at least)", () -> {
             LidCourt x = Check.told("juror a 1 5 0 seated;juror b 1 1 0;juror c 1 20 0;floor f 0 0;floor g 0 4;floor h 0 5;floor i 0 20;case p f;");

@@ -17,6 +17,7 @@ public final class EdgesOfAnswersTest {
         ask();
         strikes();
         beats();
+        eachByItsOwn();
         EDGES.close(20, 36);
     }
 
@@ -91,6 +92,14 @@ public final class EdgesOfAnswersTest {
             CHECK.due("the farthest", sitting(4, 60, 30, 1).spread(0), 59);
             LidCourt x = Check.told("juror a 60 1 0 seated;juror b 1 1 0 seated;floor f 20 0;tuned b f 0;case p f;");
             CHECK.due("80 and 0", x.spread(0), 80);
+            LidCourt high = Check.told("juror a 60 1 0 seated;juror b 60 1 0 seated;floor f 20 0;case p f;one 0;");
+            CHECK.due("80 and 80", high.spread(0), 0);
+            CHECK.due("80 and 80 are one ring by 0", high.verdict(0), 1);
+            LidCourt low = Check.told("juror a 60 1 0 seated;juror b 60 1 0 seated;floor f 20 0;tuned a f 0;tuned b f 0;case p f;one 0;");
+            CHECK.due("0 and 0", low.spread(0), 0);
+            CHECK.due("0 and 0 are one ring by 0", low.verdict(0), 1);
+            CHECK.due("0 and 0, tried", low.tryCase(0) + low.trial(0, 1), 1);
+            CHECK.due("80 and 80, tried", high.tryCase(0) + high.trial(0, 1), 1);
             dueNoneOf(1);
         });
         EDGES.promise(22, "How long the longest RING of it lasts; NONE: likewise.", () -> {
@@ -587,5 +596,59 @@ public final class EdgesOfAnswersTest {
             x.beats(0);
             CHECK.due("by the latest: nobody's", x.beating(), 0);
         });
+    }
+
+    /** What is told is by the latest call of its own, whichever others came behind it. */
+    private static void eachByItsOwn() {
+        int[] promises = {24, 26, 29, 31, 32, 34, 36};
+        String[] words = {"by the latest agree()", "by the latest jury()", "by the latest panel()", "by the latest heard()",
+            "ASK by that", "by the latest strikes()", "by the latest beats()"};
+        int[] due = {2 | 8, 1 | 32, 8, 16, 1, 4, 0};
+        for (int i = 0; i < 7; i++) {
+            int which = i;
+            EDGES.promise(promises[i], words[i], () -> {
+                LidCourt x = Check.told("juror a 40 1 12;juror b 9 1 9 seated;juror c 30 1 12;juror d 10 1 0 seated;juror e 12 1 12 seated;"
+                    + "juror g 40 1 0;floor f 0 0;case p f;one 1;");
+                CHECK.due("ahead of any", latest(x, which), NONE);
+                for (int call = 0; call < 6; call++) {
+                    if (call != (which < 4 ? which : which - 1)) {
+                        tell(x, call);
+                    }
+                }
+                CHECK.due("behind all others", latest(x, which), NONE);
+                tell(x, which < 4 ? which : which - 1);
+                CHECK.due("by its own", latest(x, which), due[which]);
+                for (int call = 0; call < 6; call++) {
+                    if (call != (which < 4 ? which : which - 1)) {
+                        tell(x, call);
+                    }
+                }
+                CHECK.due("behind all others again", latest(x, which), due[which]);
+            });
+        }
+    }
+
+    private static int latest(LidCourt x, int which) {
+        int[] all = {x.agreed(), x.jurors(), x.panelled(), x.surely(), x.ask(), x.struck(), x.beating()};
+        return all[which];
+    }
+
+    private static void tell(LidCourt x, int call) {
+        switch (call) {
+            case 0 -> x.agree(0);
+            case 1 -> x.jury(0, 2);
+            case 2 -> x.panel(0, 1, 0);
+            case 3 -> Check.heard(x, 0, 12, 12);
+            case 4 -> x.strikes(0, 2);
+            default -> tellBeats(x);
+        }
+    }
+
+    private static void tellBeats(LidCourt x) {
+        x.hold(1);
+        x.hold(3);
+        x.beats(0);
+        x.drop(1);
+        x.drop(3);
     }
 }

@@ -238,6 +238,13 @@ public final class EdgesOfBooksTest {
                 CHECK.due("all stays", x.now(0) + x.now(5) + x.now(6), 0);
                 CHECK.due("odds() is not undone", x.undo(), NONE);
             }
+            // Who nearly always holds on: whether it is tried on the 20th DAY, or the 21st, counts by some seeds.
+            String held = "juror a 10 5 11 seated;floor f 4 5;case p f;";
+            for (int seed = 0; seed < 200; seed++) {
+                LidCourt y = Check.told(held);
+                y.drawn(20, seed);
+                CHECK.due("odds(0, 1, " + seed + ")", Check.told(held).odds(0, 1, seed), y.trial(0, 1) == 1 ? 1 : 0);
+            }
             LidCourt x = Check.told(court);
             for (int n : new int[] {0, -1, 31, 60, Integer.MIN_VALUE, Integer.MAX_VALUE}) {
                 CHECK.due("odds(0, " + n + ", 1)", x.odds(0, n, 1), NONE);
@@ -522,6 +529,18 @@ public final class EdgesOfBooksTest {
             CHECK.due("nothing tried", x.now(6) + x.now(7) + x.now(3) + x.now(4), 0);
             CHECK.due("no SENTENCE", x.said(-1), NONE);
             CHECK.due("nothing of the old one is undone", x.undo(), NONE);
+            Check.court(x, "juror a 9 9 9;juror b 9 9 9;floor f 0 0;floor g 0 0;");
+            CHECK.due("nobody is 'seated' any more", x.now(1), 0);
+            CHECK.due("'one' is not told", x.count(3), 3);
+            CHECK.due("'dent' is not told", x.count(4), 1);
+            Check.court(x, "juror z 9 9 9;floor y 0 0;tuned z y 5;");
+            Check.court(x, "juror z 9 9 9;floor y 0 0;");
+            CHECK.due("nothing is TUNED any more", x.ring(0, 0), 9);
+            Check.court(x, "juror z 9 9 9 seated;one 5;dent 5;tuned zz y 5;");
+            Check.court(x, "juror z 9 9 9;floor y 0 0;tuned z y 4;one 3;");
+            CHECK.due("nothing is left of a COURT with a FAULT: 'seated'", x.now(1), 0);
+            CHECK.due("'dent'", x.count(4), 1);
+            CHECK.due("LINES", x.fault(), 0);
         });
         EDGES.terms("A call that throws changes nothing.", () -> {
             LidCourt x = Check.told(COURT);

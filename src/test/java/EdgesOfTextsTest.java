@@ -220,6 +220,16 @@ public final class EdgesOfTextsTest {
             court(two + "tuned a f 1;tuned a g 1;tuned b f 1;tuned b g 1;", 8);
             badCourt(3, two + "tuned a f 1;tuned a g 1;tuned b f 1;tuned b g 1;tuned a ^f 1;");
             badCourt(3, two + "tuned b g 0;tuned b ^g 0;");
+            String ten = lines("juror j", " 1 1 0;", 10) + lines("floor f", " 0 0;", 4);
+            StringBuilder all = new StringBuilder(ten);
+            for (int i = 0; i < 40; i++) {
+                all.append("tuned j").append((char) ('a' + i / 4)).append(" f").append((char) ('a' + i % 4)).append(' ').append(20 + i).append(';');
+            }
+            LidCourt y = court(all.toString(), 54);
+            for (int i = 0; i < 40; i++) {
+                CHECK.due("JUROR " + i / 4 + " on FLOOR " + i % 4, y.ring(i / 4, i % 4), 20 + i);
+                badCourt(3, all + "tuned j" + (char) ('a' + i / 4) + " ^f" + (char) ('a' + i % 4) + " 1;");
+            }
             badCourt(1, two + "tuned ^;");
             badCourt(1, two + "tuned a ^;");
             badCourt(1, two + "tuned a f ^;");
@@ -264,6 +274,11 @@ public final class EdgesOfTextsTest {
                 dueNameUnlessTold(word + "s", words);
                 dueNameUnlessTold("a" + word, words);
             }
+            badCourt(1, "juror ^1 1 1 1;");
+            badCourt(1, "floor ^1 1 1;");
+            badCourt(1, "floor f 0 0;case ^1 f;");
+            badCourt(1, "floor f 0 0;case p ^1;");
+            badCourt(1, "juror ^( 1 1 1;");
             court("juror name 1 1 0;juror sign 1 1 0;floor hands 0 0;floor tune 0 0;case dull tune;case n hands;", 6);
         });
         EDGES.terms("told once. 10 JURORS", () -> {
@@ -411,6 +426,19 @@ public final class EdgesOfTextsTest {
             said("(number=0 or number=1) and dented");
             said("not number=0 or number=0", 0, 1);
             said("not (number=0 or number=0)", 1);
+            // Of both ways each may be: 'and', 'or' by their left and by their right.
+            said("number=0 and number=0", 0);
+            said("number=0 and number=1");
+            said("number=0 and number<2", 0);
+            said("number<2 and number=0", 0);
+            said("number=0 or number=0", 0);
+            said("number=0 or number=1", 0, 1);
+            said("number=0 or number>1", 0);
+            said("number>1 or number=0", 0);
+            said("number>1 or number>1");
+            said("not number>1", 0, 1);
+            said("not number<2");
+            said("not not number=0", 0);
         });
         EDGES.terms("'rings' FLOOR JUROR (on that FLOOR the two are one ring; himself, too)", () -> {
             LidCourt x = Check.told("juror a 10 1 0;juror b 13 1 0;juror c 14 1 0;juror d 7 1 0;juror e 6 1 0;floor f 0 0;");
@@ -468,8 +496,16 @@ public final class EdgesOfTextsTest {
         });
         EDGES.terms("20 ONES, 8 within one another.", () -> {
             sentence("dented" + " or dented".repeat(19), 20);
+            // A 21st plain one has no room within 200 bytes: the text is over ahead of it.
+            badSentence(1, "dented" + " or dented".repeat(19) + " or^");
+            badSentence(1, "dented" + " or dented".repeat(19) + " or ^dented");
             sentence("dented" + " and dented".repeat(15) + " or not not not dented", 20);
             sentence(EIGHTEEN + " or(dented)", 20);
+            said("dented" + " or dented".repeat(18) + " or sitting", 0);
+            said("sitting" + " or dented".repeat(19), 0);
+            said(EIGHTEEN + " and not sitting", 0, 1);
+            said("sitting and(" + EIGHTEEN + ")", 0);
+            said("not(" + EIGHTEEN + ")");
             badSentence(4, EIGHTEEN + " or dented or dented or ^dented");
             badSentence(4, EIGHTEEN + " and dented and dented and ^dented");
             badSentence(4, EIGHTEEN + " or not not ^dented");
