@@ -73,6 +73,15 @@ public final class EdgesOfTextsTest {
         }
     }
 
+    private static void dueBits(LidCourt x, String text, int who) {
+        Check.sentence(x, text);
+        int bits = 0;
+        for (int k = 0; k < x.said(-1); k++) {
+            bits |= 1 << x.said(k);
+        }
+        CHECK.due("'" + text + "' is said of", bits, who);
+    }
+
     private static String blanks(int many) {
         return " ".repeat(many);
     }
@@ -121,6 +130,30 @@ public final class EdgesOfTextsTest {
             said("pitch < 999", 0, 1);
             said("pitch > 000", 0, 1);
             badSentence(1, "pitch < ^1000");
+        });
+        EDGES.terms("; ; < = > ( ) .", () -> {
+            for (String sign : new String[] {";", "<", "=", ">", "(", ")", "."}) {
+                badCourt(1, "^" + sign);
+                badCourt(1, "one ^" + sign);
+                badCourt(1, "juror ^" + sign + " 1 1 0;");
+                badBook(1, "^" + sign);
+                badBook(1, "day ^" + sign);
+                badBook(1, "a ^" + sign);
+                badSentence(1, "dented ^" + sign);
+                badSentence(1, "pitch < ^" + sign);
+                badSentence(1, "rings ^" + sign);
+            }
+            for (String sign : new String[] {"<", "=", ">", "(", ")", "."}) {
+                badCourt(1, "one 3^" + sign);
+                badBook(1, "day 3^" + sign);
+            }
+            for (String sign : new String[] {";", "<", "=", ">", ")", "."}) {
+                badSentence(1, "^" + sign);
+                badSentence(1, "not ^" + sign);
+            }
+            for (String sign : new String[] {";", "(", ")", "."}) {
+                badSentence(1, "pitch^" + sign);
+            }
         });
         EDGES.terms("A WORD, NUMBER goes on as long as small letters and digits do; what is not as told is no TOKEN", () -> {
             badCourt(1, "^one3;");
@@ -439,6 +472,23 @@ public final class EdgesOfTextsTest {
             said("not number>1", 0, 1);
             said("not number<2");
             said("not not number=0", 0);
+        });
+        EDGES.terms("'sitting' | 'holding' | 'dented'", () -> {
+            LidCourt x = Check.told("juror a 9 9 0 seated;juror b 9 9 0 seated;juror c 9 9 0;juror d 9 9 0;floor f 0 0;case p f;dent 0;");
+            x.hold(1);
+            x.hold(3);
+            x.tryCase(0);
+            dueBits(x, "sitting", 3);
+            dueBits(x, "holding", 2 | 8);
+            dueBits(x, "dented", 1);
+            dueBits(x, "sitting and holding", 2);
+            dueBits(x, "not sitting and not holding and not dented", 4);
+            x.rise(0);
+            dueBits(x, "dented and not sitting", 1);
+            x.beat(0);
+            dueBits(x, "dented", 0);
+            x.days(1);
+            dueBits(x, "holding", 0);
         });
         EDGES.terms("'rings' FLOOR JUROR (on that FLOOR the two are one ring; himself, too)", () -> {
             LidCourt x = Check.told("juror a 10 1 0;juror b 13 1 0;juror c 14 1 0;juror d 7 1 0;juror e 6 1 0;floor f 0 0;");
