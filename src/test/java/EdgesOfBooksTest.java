@@ -295,6 +295,9 @@ public final class EdgesOfBooksTest {
             CHECK.due("a FAULT at 400", Check.book(x, 1, " ".repeat(401)), -402);
             CHECK.due("a FAULT behind what is WRONG", Check.book(x, 1, "a sits;day 0;"), -13);
             CHECK.due("nothing was lived", x.now(0), 0);
+            CHECK.due("nothing of a longer one is left", Check.book(x, 0, "day 1;a sits;"), 1);
+            CHECK.due("nothing of a longer one is left", Check.book(x, 0, "day 1;"), NONE);
+            CHECK.due("LINES", x.told(1), 1);
             Check.lay(x, "day 5;");
             for (int lives : new int[] {-1, 2, 3, -1000, Integer.MIN_VALUE, Integer.MAX_VALUE}) {
                 CHECK.due("book(" + lives + ")", x.book(lives), -1000);
@@ -379,6 +382,17 @@ public final class EdgesOfBooksTest {
             CHECK.due("a comparison", Check.sentence(x, "pitch<5"), 1);
             CHECK.due("'and', 'or' are none", Check.sentence(x, "not(sitting and holding or dented)"), 5);
             CHECK.due("20", Check.sentence(x, "sitting" + " or dented".repeat(19)), 20);
+            CHECK.due("said(-1)", x.said(-1), 2);
+            // Nothing of a longer one is left in a shorter one.
+            Check.sentence(x, "not not not sitting");
+            CHECK.due("not sitting", x.said(-1), 1);
+            for (String shorter : new String[] {"not not sitting", "sitting", "sitting or sitting", "sitting"}) {
+                Check.sentence(x, shorter);
+                CHECK.due("'" + shorter + "' is said of", x.said(-1), 2);
+            }
+            Check.sentence(x, "(sitting or holding) and not sitting");
+            CHECK.due("nobody", x.said(-1), 0);
+            Check.sentence(x, "sitting or holding");
             CHECK.due("said(-1)", x.said(-1), 2);
             CHECK.due("a FAULT at 0", Check.sentence(x, ""), -1);
             CHECK.due("a FAULT at 4", Check.sentence(x, "not "), -5);
