@@ -271,6 +271,20 @@ public final class EdgesOfAnswersTest {
             CHECK.due("panel of ten, above", ten.panel(0, 10, 0), 61917364224L - 25937424601L);
             CHECK.due("panel of ten, below", ten.panel(0, 10, 1), 61917364224L);
         });
+        EDGES.promise(27, "LIKELY: how likely a CASE would be FREE.", () -> {
+            // RINGS 10 11 13 on f; 13 11 13 on g, where a is tuned: 10 and 13 are not one ring
+            LidCourt x = Check.told("juror a 10 1 3 seated;juror b 11 1 6 seated;juror c 13 1 4 seated;floor f 0 0;floor g 0 0;"
+                + "case p f;case q g;tuned a g 13;one 2;");
+            // FREE: some drop, and not both a and c: 1 less (3 6 4 of 12 each hold) less (9 and 8 of 12 let go)
+            CHECK.due("above", x.likely(0, 0), 11);
+            CHECK.due("below", x.likely(0, 1), 24);
+            CHECK.due("above, of another FLOOR", x.likely(1, 0), 23);
+            CHECK.due("below, of another FLOOR", x.likely(1, 1), 24);
+            x.rise(2);
+            // 1 less 3 and 6 of 12
+            CHECK.due("above without c", x.likely(0, 0), 7);
+            CHECK.due("below without c", x.likely(0, 1), 8);
+        });
         EDGES.promise(27, "NoSuchElementException: no such ones.", () -> {
             LidCourt x = Check.told(COURT);
             for (int far : FAR) {

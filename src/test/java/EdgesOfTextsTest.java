@@ -544,6 +544,22 @@ public final class EdgesOfTextsTest {
             badSentence(1, "pitch = ^a");
             badSentence(1, "pitch = ^pitch");
         });
+        EDGES.terms("It is said of JURORS.", () -> {
+            // The SENTENCE is said of each JUROR by himself, of no FLOOR or CASE, whether he sits or not.
+            LidCourt x = Check.told("floor f 0 0;floor g 9 0;juror a 10 1 0;case p f;juror b 13 2 0 seated;case q g;juror c 14 3 0;");
+            CHECK.due("sentence()", Check.sentence(x, "sitting or not sitting"), 3);
+            CHECK.due("all JURORS", x.said(-1), 3);
+            CHECK.due("the last one", x.said(2), 2);
+            CHECK.due("no one behind", x.said(3), LidCourt.NONE);
+            CHECK.due("sentence()", Check.sentence(x, "rings f a and not sitting"), 3);
+            CHECK.due("a alone", x.said(-1), 1);
+            CHECK.due("a", x.said(0), 0);
+            x.rise(1);
+            CHECK.due("b, too: as all is now", x.said(-1), 2);
+            CHECK.due("b", x.said(1), 1);
+            CHECK.due("a FLOOR is no JUROR", Check.sentence(x, "rings f g"), -1 - 8);
+            CHECK.due("FAULT", x.fault(), 3);
+        });
         EDGES.terms("20 ONES, 8 within one another.", () -> {
             sentence("dented" + " or dented".repeat(19), 20);
             // A 21st plain one has no room within 200 bytes: the text is over ahead of it.

@@ -5,6 +5,7 @@ import java.util.Random;
 /** Random runs of calls, each answer compared with what the plain court answers. */
 public final class RandomRunsTest {
     private static final int RUNS = Integer.getInteger("runs", 600);
+    private static final int FIRST = Integer.getInteger("first", 0);
     private static final int CALLS = 500;
     private static final long THROWS = Long.MIN_VALUE;
 
@@ -293,7 +294,7 @@ public final class RandomRunsTest {
 
     public static void main(String[] args) {
         Check check = new Check("RandomRunsTest");
-        for (int run = 0; run < RUNS; run++) {
+        for (int run = FIRST; run < FIRST + RUNS; run++) {
             new RandomRunsTest(check, run).go();
         }
         check.close();

@@ -1,4 +1,5 @@
 import java.util.ArrayList;
+import java.util.Collections;
 import java.util.List;
 import java.util.Random;
 
@@ -10,6 +11,10 @@ final class RandomTexts {
         "dented", "rings", "pitch", "length", "dents", "number", "0", "1", "7", "12", "13", "20", "21", "60", "61",
         "999", "1000", "007", "a1", "1a", "abcdefg", "abcdefgh", "zz", "\t", "\u00e9", "\0", "j0", "ja", "fa", "ca"
     };
+
+    /** Where the WORDS that are no NAMES stand in ODD. */
+    private static final int FIRST_WORD = 8;
+    private static final int WORDS = 26;
 
     private final Random random;
     private final List<String> jurors = new ArrayList<>();
@@ -50,20 +55,21 @@ final class RandomTexts {
         int base = 1 + random.nextInt(40);
         int wide = 1 + random.nextInt(20);
         boolean easy = random.nextInt(3) == 0;
+        boolean named = random.nextInt(3) == 0;
         for (int i = 0; i < manyJurors; i++) {
-            String name = "j" + (char) ('a' + i);
+            String name = named ? anyName() : "j" + (char) ('a' + i);
             jurors.add(name);
             int hands = easy ? random.nextInt(4) : random.nextInt(13);
             lines.add("juror " + name + " " + (base + random.nextInt(wide)) + " " + (1 + random.nextInt(20)) + " " + hands
                 + (random.nextInt(3) > 0 ? " seated" : ""));
         }
         for (int i = 0; i < manyFloors; i++) {
-            String name = "f" + (char) ('a' + i);
+            String name = named ? anyName() : "f" + (char) ('a' + i);
             floors.add(name);
             lines.add("floor " + name + " " + random.nextInt(21) + " " + random.nextInt(21));
         }
         for (int i = 0; i < manyCases; i++) {
-            String name = "c" + (char) ('a' + i);
+            String name = named ? anyName() : "c" + (char) ('a' + i);
             cases.add(name);
             lines.add("case " + name + " " + pick(floors, "f"));
         }
@@ -79,7 +85,53 @@ final class RandomTexts {
         if (random.nextInt(3) > 0) {
             lines.add("dent " + random.nextInt(random.nextInt(3) == 0 ? 10 : 4));
         }
+        if (random.nextInt(3) == 0) {
+            mix(lines);
+        }
         return joined(lines);
+    }
+
+    /** Of 1 to 7 letters, most not told yet, some all but a WORD that is no NAME. */
+    private String anyName() {
+        String name;
+        do {
+            if (random.nextInt(4) == 0) {
+                String word = ODD[FIRST_WORD + random.nextInt(WORDS)];
+                int cut = random.nextInt(word.length());
+                name = random.nextBoolean() && word.length() < 7 ? word + (char) ('a' + random.nextInt(26))
+                    : cut == 0 ? "q" + word.substring(1) : word.substring(0, cut);
+            } else {
+                StringBuilder letters = new StringBuilder();
+                for (int i = random.nextInt(7); i >= 0; i--) {
+                    letters.append((char) ('a' + random.nextInt(random.nextBoolean() ? 2 : 26)));
+                }
+                name = letters.toString();
+            }
+        } while (random.nextInt(200) > 0 && (isTold(name) || PlainCourt.WORDS.contains(name)));
+        return name;
+    }
+
+    private boolean isTold(String name) {
+        return jurors.contains(name) || floors.contains(name) || cases.contains(name);
+    }
+
+    /** Other LINES ahead of others: most so that each NAME is told ahead of its use still. */
+    private void mix(List<String> lines) {
+        if (random.nextInt(12) == 0) {
+            Collections.shuffle(lines, random);
+            return;
+        }
+        for (int i = 0; i < 200 && lines.size() > 1; i++) {
+            int at = random.nextInt(lines.size() - 1);
+            if (!usesNameOf(lines.get(at + 1), lines.get(at))) {
+                Collections.swap(lines, at, at + 1);
+            }
+        }
+    }
+
+    private static boolean usesNameOf(String later, String earlier) {
+        boolean tells = !earlier.startsWith("tuned ") && !earlier.startsWith("one ") && !earlier.startsWith("dent ");
+        return tells && (later + " ").indexOf(" " + earlier.split(" ")[1] + " ") >= 0;
     }
 
     private String joined(List<String> lines) {
